@@ -1192,7 +1192,7 @@ public final class NightShelter {
             if (party == NONE) {
                 return true;
             }
-            if (depth >= MAX_AT_DOOR) {
+            if (depth >= MAX_AT_DOOR || isCrowded()) {
                 return false;
             }
             int open = openRooms(party);
@@ -1222,6 +1222,18 @@ public final class NightShelter {
                 }
             }
             return best;
+        }
+
+        /* Too few places are seen at once here; the search would try every way to fill them first. */
+        private boolean isCrowded() {
+            int places = 0;
+            for (int room = 0; room < state.rooms.size; room++) {
+                places += left[room];
+            }
+            for (int party = 0; party < parties; party++) {
+                places -= where[party] == NONE ? size[party] : 0;
+            }
+            return places < 0;
         }
 
         /*
