@@ -44,16 +44,16 @@ public final class NightShelter {
     private final State now;
     private final State[] images;
     private final Porter porter;
-    private int fault;
-    private int faultPlace;
+    private int latestFault;
+    private int latestPlace;
 
     public NightShelter() {
         tape = new Tape();
         now = new State(new Rules());
         images = new State[IMAGES];
         porter = new Porter();
-        fault = NO_FAULT;
-        faultPlace = NONE;
+        latestFault = NO_FAULT;
+        latestPlace = NONE;
     }
 
     public int feed(int a, int b, int c, int d, int e) {
@@ -82,9 +82,9 @@ public final class NightShelter {
         Parser parser = new Parser(tokens);
         parser.parse();
         tape.length = 0;
-        fault = parser.fault;
-        faultPlace = parser.place;
-        if (fault != NO_FAULT) {
+        latestFault = parser.fault;
+        latestPlace = parser.place;
+        if (latestFault != NO_FAULT) {
             return NONE;
         }
         now.rules = parser.rules;
@@ -93,8 +93,8 @@ public final class NightShelter {
 
     public int fault(int what) {
         switch (what) {
-            case 0: return fault;
-            case 1: return faultPlace;
+            case 0: return latestFault;
+            case 1: return latestPlace;
             default: return NONE;
         }
     }

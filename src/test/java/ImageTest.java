@@ -5,6 +5,7 @@ public final class ImageTest {
         allComesBack();
         tapeAndFaultStay();
         imagesAreTheirOwn();
+        otherHistories();
         Checks.close();
     }
 
@@ -126,5 +127,64 @@ public final class ImageTest {
         Checks.same("image 0 anew", x.tell(0, 6), 1);
         x.again(1);
         Checks.same("image 1 still", x.tell(0, 6), 0);
+    }
+
+    /** Two shelters that have nothing alike, as two images of one object. */
+    private static void otherHistories() {
+        NightShelter x = new NightShelter();
+        x.image(2);
+        furnishOneWay(x);
+        int[] first = answers(x);
+        x.image(0);
+        x.again(2);
+        sameAnswers("a new object", answers(x), answers(new NightShelter()));
+        furnishOtherWay(x);
+        int[] second = answers(x);
+        x.image(1);
+        x.again(0);
+        sameAnswers("the first shelter", answers(x), first);
+        NightShelter y = new NightShelter();
+        furnishOneWay(y);
+        x.evening(15, true);
+        y.evening(15, true);
+        sameAnswers("the first shelter's next evening", answers(x), answers(y));
+        x.again(1);
+        sameAnswers("the other shelter", answers(x), second);
+        NightShelter z = new NightShelter();
+        furnishOtherWay(z);
+        x.evening(15, false);
+        z.evening(15, false);
+        sameAnswers("the other shelter's next evening", answers(x), answers(z));
+    }
+
+    private static void furnishOneWay(NightShelter x) {
+        x.room(1, 3, true, false, 1);
+        x.room(2, 0, false, true, 2);
+        x.person(30, 1, true, false);
+        x.person(31, 2, false, true);
+        x.person(32, 2, false, true);
+        x.person(33, 1, true, true);
+        x.ill(3, 1);
+        x.pair(0, 3, 0);
+        x.helper(0b0101011, 1);
+        Checks.take(x, "when climbs:add 4;");
+        x.evening(15, false);
+    }
+
+    private static void furnishOtherWay(NightShelter x) {
+        x.room(2, 2, false, true, 2);
+        x.room(1, 3, true, false, 1);
+        x.person(80, 2, false, true);
+        x.person(81, 1, true, false);
+        x.person(82, 1, true, false);
+        x.person(83, 2, false, true);
+        x.ill(0, 2);
+        x.pair(1, 2, 1);
+        x.bar(3, true);
+        x.helper(0b1010100, 5);
+        x.helper(0b1111111, 2);
+        Checks.take(x, "when dog:add 4;last;");
+        x.evening(9, true);
+        x.evening(15, true);
     }
 }

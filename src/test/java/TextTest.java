@@ -131,6 +131,8 @@ public final class TextTest {
         bad("bar#;", 1, 3);
         bad("bar;\0", 1, 4);
         bad("bar \u00e4;", 1, 4);
+        bad("\u00e2ar;", 1, 0);
+        bad("bar\u00a0;", 1, 3);
         bad("last;12345", 1, 5);
     }
 
