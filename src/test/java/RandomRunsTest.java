@@ -1,4 +1,9 @@
+import java.util.ArrayList;
+import java.util.List;
 import java.util.Random;
+import java.util.function.Consumer;
+import java.util.function.Predicate;
+import java.util.function.ToIntFunction;
 
 /** All promises: random runs of calls, with every answer beside that of PlainShelter. */
 public final class RandomRunsTest {
@@ -6,11 +11,18 @@ public final class RandomRunsTest {
         "here", "when", "and", "not", "add", "bar", "last", "ad", "bars", ":", ";", "<", ">", "=", "-", "0", "1", "2",
         "18", "45", "9999", "12345", " ", "\n", "#", "A", ""};
 
+    /* An object is good for 512 calls; what is left of them is for the questions. */
+    private static final int MOST_CHANGES = 380;
+    private static final int QUESTIONS_AN_OBJECT = 120;
+
     private final Random random;
     private final NightShelter x = new NightShelter();
     private final PlainShelter y = new PlainShelter();
+    private final List<Consumer<NightShelter>> changes = new ArrayList<>();
     private final String run;
     private final int care;
+    private NightShelter asked;
+    private int questions;
 
     private RandomRunsTest(long seed) {
         random = new Random(seed);
@@ -28,11 +40,33 @@ public final class RandomRunsTest {
 
     private void go() {
         begin();
-        for (int i = 0; i < 60; i++) {
+        for (int i = 0; i < 60 && changes.size() < MOST_CHANGES - 30; i++) {
             step();
             look();
         }
         lookAtAll();
+    }
+
+    /** Makes a call that may change something, and keeps it for the objects that are asked. */
+    private void change(String call, ToIntFunction<NightShelter> make, int due) {
+        changes.add(make::applyAsInt);
+        asked = null;
+        Checks.same(run + call, make.applyAsInt(x), due);
+    }
+
+    private void changeBool(String call, Predicate<NightShelter> make, boolean due) {
+        change(call, shelter -> make.test(shelter) ? 1 : 0, due ? 1 : 0);
+    }
+
+    /** Asks an object that went through the same changes, a fresh one ahead of its 512th call. */
+    private void ask(String call, ToIntFunction<NightShelter> question, int due) {
+        if (asked == null || questions == QUESTIONS_AN_OBJECT) {
+            asked = new NightShelter();
+            questions = 0;
+            changes.forEach(made -> made.accept(asked));
+        }
+        questions++;
+        Checks.same(run + call, question.applyAsInt(asked), due);
     }
 
     private void begin() {
@@ -61,11 +95,11 @@ public final class RandomRunsTest {
             case 10 -> again();
             case 11 -> {
                 int n = number(-2, 600);
-                same("end(" + n + ")", x.end(n), y.end(n));
+                change("end(" + n + ")", z -> z.end(n), y.end(n));
             }
             case 12 -> {
                 int a = random.nextInt();
-                same("feed", x.feed(a, ~a, a * 3, a * 5, a * 7), y.feed(a, ~a, a * 3, a * 5, a * 7));
+                change("feed", z -> z.feed(a, ~a, a * 3, a * 5, a * 7), y.feed(a, ~a, a * 3, a * 5, a * 7));
             }
             default -> evening();
         }
@@ -89,8 +123,8 @@ public final class RandomRunsTest {
         boolean stairs = !often();
         boolean dogs = often();
         int kind = often() ? 0 : number(0, 2);
-        same("room(" + holds + ", " + mats + ", " + stairs + ", " + dogs + ", " + kind + ")",
-                x.room(holds, mats, stairs, dogs, kind), y.room(holds, mats, stairs, dogs, kind));
+        change("room(" + holds + ", " + mats + ", " + stairs + ", " + dogs + ", " + kind + ")",
+                z -> z.room(holds, mats, stairs, dogs, kind), y.room(holds, mats, stairs, dogs, kind));
     }
 
     private void person() {
@@ -98,8 +132,8 @@ public final class RandomRunsTest {
         int kind = number(1, 2);
         boolean climbs = often();
         boolean dog = !often();
-        same("person(" + age + ", " + kind + ", " + climbs + ", " + dog + ")",
-                x.person(age, kind, climbs, dog), y.person(age, kind, climbs, dog));
+        change("person(" + age + ", " + kind + ", " + climbs + ", " + dog + ")",
+                z -> z.person(age, kind, climbs, dog), y.person(age, kind, climbs, dog));
     }
 
     private int somebody() {
@@ -110,35 +144,35 @@ public final class RandomRunsTest {
         int a = somebody();
         int b = somebody();
         int how = random.nextInt(care + 2) > 0 ? 0 : number(0, 2);
-        same("pair(" + a + ", " + b + ", " + how + ")", x.pair(a, b, how), y.pair(a, b, how));
+        changeBool("pair(" + a + ", " + b + ", " + how + ")", z -> z.pair(a, b, how), y.pair(a, b, how));
     }
 
     private void helper() {
         int days = number(0, 127);
         int nights = number(1, 7);
-        same("helper(" + days + ", " + nights + ")", x.helper(days, nights), y.helper(days, nights));
+        change("helper(" + days + ", " + nights + ")", z -> z.helper(days, nights), y.helper(days, nights));
     }
 
     private void bar() {
         int p = somebody();
         boolean is = random.nextInt(3) == 0;
-        same("bar(" + p + ", " + is + ")", x.bar(p, is), y.bar(p, is));
+        changeBool("bar(" + p + ", " + is + ")", z -> z.bar(p, is), y.bar(p, is));
     }
 
     private void ill() {
         int p = somebody();
         int ill = often() ? 0 : number(0, 3);
-        same("ill(" + p + ", " + ill + ")", x.ill(p, ill), y.ill(p, ill));
+        changeBool("ill(" + p + ", " + ill + ")", z -> z.ill(p, ill), y.ill(p, ill));
     }
 
     private void image() {
         int k = number(0, 2);
-        same("image(" + k + ")", x.image(k), y.image(k));
+        changeBool("image(" + k + ")", z -> z.image(k), y.image(k));
     }
 
     private void again() {
         int k = number(0, 2);
-        same("again(" + k + ")", x.again(k), y.again(k));
+        changeBool("again(" + k + ")", z -> z.again(k), y.again(k));
         lookAtAll();
     }
 
@@ -146,9 +180,10 @@ public final class RandomRunsTest {
         int door = 0;
         int standing = 3 + random.nextInt(8);
         for (int i = 0; i < standing; i++) door |= 1 << number(0, Math.max(0, Math.min(y.count(1), 12) - 1));
-        if (!often()) door = random.nextInt() & random.nextInt();
+        int standsThere = often() ? door : random.nextInt() & random.nextInt();
         boolean cold = random.nextBoolean();
-        same("evening(" + door + ", " + cold + ")", x.evening(door, cold), y.evening(door, cold));
+        change("evening(" + standsThere + ", " + cold + ")", z -> z.evening(standsThere, cold),
+                y.evening(standsThere, cold));
         lookAtEvening();
     }
 
@@ -190,65 +225,62 @@ public final class RandomRunsTest {
 
     private void text(String text) {
         String padded = text + " ".repeat((20 - text.length() % 20) % 20);
-        x.end(0);
-        y.end(0);
+        change("end(0)", z -> z.end(0), y.end(0));
         for (int i = 0; i < padded.length(); i += 20) {
             int[] n = new int[5];
             for (int b = 0; b < 20; b++) n[b / 4] = n[b / 4] << 8 | padded.charAt(i + b) & 255;
-            same("feed", x.feed(n[0], n[1], n[2], n[3], n[4]), y.feed(n));
+            change("feed", z -> z.feed(n[0], n[1], n[2], n[3], n[4]), y.feed(n));
         }
-        if (often()) same("end", x.end(text.length()), y.end(text.length()));
-        same("text " + text, x.text(), y.text());
-        for (int what = -1; what < 3; what++) same("fault(" + what + ") of " + text, x.fault(what), y.fault(what));
-        same("LINES of " + text, x.count(5), y.count(5));
+        if (often()) change("end", z -> z.end(text.length()), y.end(text.length()));
+        change("text " + text, NightShelter::text, y.text());
+        for (int i = -1; i < 3; i++) {
+            int what = i;
+            ask("fault(" + what + ") of " + text, z -> z.fault(what), y.fault(what));
+        }
+        ask("LINES of " + text, z -> z.count(5), y.count(5));
     }
 
     private void look() {
         int what = number(0, 14);
         int p = number(0, 24);
         boolean cold = random.nextBoolean();
-        same("tell(" + p + ", " + what + ")", x.tell(p, what), y.tell(p, what));
-        same("told(" + p + ", " + what + ")", x.told(p, what), y.told(p, what));
-        same("duty(" + p + ", " + what + ")", x.duty(p, what), y.duty(p, what));
-        same("book(" + p + ", " + what + ")", x.book(p, what), y.book(p, what));
-        same("count(" + what + ")", x.count(what), y.count(what));
-        same("called(" + p + ")", x.called(p), y.called(p));
-        same("points(" + p + ")", x.points(p, cold), y.points(p, cold));
+        lookAtOne(p, what);
+        ask("count(" + what + ")", z -> z.count(what), y.count(what));
+        ask("called(" + p + ")", z -> z.called(p) ? 1 : 0, y.called(p) ? 1 : 0);
+        ask("points(" + p + ")", z -> z.points(p, cold), y.points(p, cold));
+    }
+
+    private void lookAtOne(int i, int what) {
+        ask("tell(" + i + ", " + what + ")", z -> z.tell(i, what), y.tell(i, what));
+        ask("told(" + i + ", " + what + ")", z -> z.told(i, what), y.told(i, what));
+        ask("duty(" + i + ", " + what + ")", z -> z.duty(i, what), y.duty(i, what));
+        ask("book(" + i + ", " + what + ")", z -> z.book(i, what), y.book(i, what));
     }
 
     private void lookAtEvening() {
-        for (int p = 0; p < y.count(1); p++) {
-            for (int what = 0; what < 3; what++) {
-                same("told(" + p + ", " + what + ")", x.told(p, what), y.told(p, what));
+        for (int i = 0; i < y.count(1); i++) {
+            for (int j = 0; j < 3; j++) {
+                int p = i;
+                int what = j;
+                ask("told(" + p + ", " + what + ")", z -> z.told(p, what), y.told(p, what));
             }
         }
-        for (int what = 0; what < 15; what++) {
-            int evening = y.count(4) - 1;
-            same("book(" + evening + ", " + what + ")", x.book(evening, what), y.book(evening, what));
+        int evening = y.count(4) - 1;
+        for (int i = 0; i < 15; i++) {
+            int what = i;
+            ask("book(" + evening + ", " + what + ")", z -> z.book(evening, what), y.book(evening, what));
         }
     }
 
     private void lookAtAll() {
-        lookAtEvening();
-        for (int what = -1; what < 16; what++) {
-            same("count(" + what + ")", x.count(what), y.count(what));
-            for (int i = -1; i < 25; i++) {
-                same("tell(" + i + ", " + what + ")", x.tell(i, what), y.tell(i, what));
-                same("duty(" + i + ", " + what + ")", x.duty(i, what), y.duty(i, what));
-                same("book(" + i + ", " + what + ")", x.book(i, what), y.book(i, what));
-            }
-        }
         for (int i = -1; i < 25; i++) {
-            same("called(" + i + ")", x.called(i), y.called(i));
-            same("points(" + i + ")", x.points(i, false), y.points(i, false));
+            int n = i;
+            for (int what = -1; what < 16; what++) {
+                lookAtOne(n, what);
+            }
+            ask("count(" + n + ")", z -> z.count(n), y.count(n));
+            ask("called(" + n + ")", z -> z.called(n) ? 1 : 0, y.called(n) ? 1 : 0);
+            ask("points(" + n + ")", z -> z.points(n, false), y.points(n, false));
         }
-    }
-
-    private void same(String call, long got, long due) {
-        Checks.same(run + call, got, due);
-    }
-
-    private void same(String call, boolean got, boolean due) {
-        Checks.same(run + call, got, due);
     }
 }
