@@ -1208,32 +1208,54 @@ public final class NightShelter {
             return false;
         }
 
-        /* The one with the fewest ways first: a dead end shows early. */
+        /* The one with the fewest ROOMS for its clashes first: a dead end shows early. */
         private int tightest() {
             int best = NONE;
-            int fewest = 0;
+            int fewestRooms = 0;
+            int mostClashes = 0;
             for (int party = 0; party < parties; party++) {
                 if (where[party] == NONE) {
-                    int ways = Integer.bitCount(openRooms(party)) * 32 - Integer.bitCount(foes[party]);
-                    if (best == NONE || ways < fewest) {
+                    int rooms = Integer.bitCount(openRooms(party));
+                    int clashes = 1 + clashesOf(party);
+                    if (best == NONE || rooms * mostClashes < fewestRooms * clashes) {
                         best = party;
-                        fewest = ways;
+                        fewestRooms = rooms;
+                        mostClashes = clashes;
                     }
                 }
             }
             return best;
         }
 
+        /** With how many of those who stand in no ROOM a party can't share one. */
+        private int clashesOf(int party) {
+            int found = 0;
+            for (int other = 0; other < parties; other++) {
+                boolean clash = ill[other] != ill[party] || (foes[party] & members[other]) != 0;
+                found += where[other] == NONE && clash ? 1 : 0;
+            }
+            return found;
+        }
+
         /* Too few places are seen at once here; the search would try every way to fill them first. */
         private boolean isCrowded() {
             int places = 0;
             for (int room = 0; room < state.rooms.size; room++) {
-                places += left[room];
+                places += Math.min(left[room], waitingFor(room));
             }
             for (int party = 0; party < parties; party++) {
                 places -= where[party] == NONE ? size[party] : 0;
             }
             return places < 0;
+        }
+
+        /* Places that nobody who is left can use, as beside another ILL, are no places. */
+        private int waitingFor(int room) {
+            int people = 0;
+            for (int party = 0; party < parties; party++) {
+                people += where[party] == NONE && isOpen(room, party) ? size[party] : 0;
+            }
+            return people;
         }
 
         /*

@@ -251,6 +251,13 @@ public final class EveningEdgesTest {
         Checks.same("a fourth", x.evening(0b1111, false), 3);
         Checks.same("it stands first by TURNED next time", x.evening(0b1111, false), 3);
         Shelters.told(x, 1, 0, 0, 5, 0);
+        NightShelter y = Shelters.rooms(Shelters.with(7), 3, 3);
+        y.pair(2, 3, 1);
+        y.pair(4, 5, 1);
+        Checks.same("the first two in two ROOMS, for two PARTIES of two", evening(y, 6), 6);
+        Shelters.told(y, 0, 0, 1, 0, 0, 1, 1);
+        Checks.same("and no place for one more", evening(y, 7), 6);
+        Shelters.told(y, 1, 0, 0, 0, 0, 0, 0, 5);
     }
 
     private static void notMoreThanItHolds() {
@@ -297,6 +304,19 @@ public final class EveningEdgesTest {
         x.pair(0, 1, 1);
         x.pair(1, 2, 1);
         Checks.same("no ROOM for four, places for five", evening(x, 4), 0);
+        NightShelter y = new NightShelter();
+        y.person(30, 1, true, false);
+        y.person(30, 1, true, false);
+        y.person(30, 1, false, false);
+        y.room(2, 0, false, false, 0);
+        y.room(2, 0, true, false, 0);
+        y.pair(0, 2, 0);
+        y.evening(0b101, false);
+        y.evening(0b010, false);
+        Shelters.tell(y, 5, 1, 0, 0);
+        y.pair(0, 1, 1);
+        Checks.same("TOGETHER, after they slept in two ROOMS", evening(y, 2), 2);
+        Shelters.told(y, 0, 1, 1);
     }
 
     private static void allOfOneIll() {
@@ -412,6 +432,17 @@ public final class EveningEdgesTest {
         Shelters.told(x, 0, 1, 0);
         evening(x, 1);
         Checks.same("where it slept last, not where it slept first", x.told(0, 0), 1);
+        NightShelter y = new NightShelter();
+        y.person(30, 1, true, false);
+        y.person(30, 1, false, false);
+        y.person(30, 1, true, false);
+        y.room(1, 0, false, false, 0);
+        y.room(1, 0, true, false, 0);
+        y.room(1, 0, true, false, 0);
+        y.evening(0b101, false);
+        Shelters.tell(y, 5, 0, -1, 1);
+        evening(y, 3);
+        Shelters.told(y, 0, 1, 0, 2);
     }
 
     private static void leastNumberFirst() {

@@ -75,6 +75,9 @@ public final class PointsEdgesTest {
         }
         points(x, "when dog:add 1;when climbs:add 2;when dog:add 4;when kind=1:add 8;", 10);
         points(x, "when dog:add 1;add 16;", 16);
+        String four = "climbs and climbs and climbs and climbs";
+        points(x, "when " + four + ":add 1;when dog:add 2;when " + four + ":add 4;", 5);
+        points(x, "when dog and " + four.substring(11) + ":add 1;when climbs:add 2;", 2);
     }
 
     private static void signsAtTheirNumber() {

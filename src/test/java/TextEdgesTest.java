@@ -16,6 +16,7 @@ public final class TextEdgesTest {
         bytesOfNumbers();
         signs();
         tokensGoAsLongAsTheyCan();
+        everyLetterOfAWord();
         digitsOfNumbers();
         whatEachTokenMayFollow();
         placeOfAToken();
@@ -141,6 +142,30 @@ public final class TextEdgesTest {
         bad("add 1 2;", 1, 6);
         good("when age<5and dog:add5;", 1);
         good("add 5;add 5;", 2);
+    }
+
+    private static void everyLetterOfAWord() {
+        Checks.sentence("TEXT: {LINE}. LINE: ['when' TEST {'and' TEST} ':'] ACT ';'.");
+        for (String text : new String[] {"when not age=1:add 1;", "when climbs and here:bar;", "when nights=1:last;",
+            "when turned=1 and ill=1:bar;", "when kind=1 and cold=1 and day=1 and dog:bar;"}) {
+            good(text, 1);
+            for (int at = 0; at < text.length(); at++) {
+                if (isLetter(text.charAt(at))) {
+                    spoilt(text, at);
+                }
+            }
+        }
+    }
+
+    /* A letter that is another, wanting, or there twice makes another word of it. */
+    private static void spoilt(String text, int at) {
+        int first = at;
+        while (first > 0 && isLetter(text.charAt(first - 1))) {
+            first--;
+        }
+        bad(text.substring(0, at) + 'x' + text.substring(at + 1), 1, first);
+        bad(text.substring(0, at) + text.substring(at + 1), 1, first);
+        bad(text.substring(0, at) + text.charAt(at) + text.substring(at), 1, first);
     }
 
     private static void digitsOfNumbers() {
