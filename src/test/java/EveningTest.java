@@ -24,54 +24,39 @@ public final class EveningTest {
         Checks.close();
     }
 
-    /** A shelter with so many grown-ups of KIND 1 who climb and have no DOG. */
-    private static NightShelter with(int people) {
-        NightShelter x = new NightShelter();
-        for (int i = 0; i < people; i++) {
-            x.person(20 + i, 1, true, false);
-        }
-        return x;
-    }
-
-    private static void told(NightShelter x, int what, int... due) {
-        for (int person = 0; person < due.length; person++) {
-            Checks.same("told(" + person + ", " + what + ")", x.told(person, what), due[person]);
-        }
-    }
-
     private static void order() {
-        NightShelter x = with(4);
+        NightShelter x = Shelters.with(4);
         x.room(2, 0, false, false, 0);
         Checks.same("two of four", x.evening(15, false), 2);
-        told(x, 2, 0, 1, 2, 3);
-        told(x, 1, 0, 0, 5, 5);
-        told(x, 0, 0, 0, -1, -1);
+        Shelters.told(x, 2, 0, 1, 2, 3);
+        Shelters.told(x, 1, 0, 0, 5, 5);
+        Shelters.told(x, 0, 0, 0, -1, -1);
         Checks.same("the others next", x.evening(15, false), 2);
-        told(x, 2, 2, 3, 0, 1);
-        told(x, 0, -1, -1, 0, 0);
+        Shelters.told(x, 2, 2, 3, 0, 1);
+        Shelters.told(x, 0, -1, -1, 0, 0);
         Checks.take(x, "when age>22:add 2;when age=22:add 1;when age=21:add -1;");
         x.evening(15, false);
-        told(x, 2, 2, 3, 1, 0);
+        Shelters.told(x, 2, 2, 3, 1, 0);
         x.bar(3, true);
         x.evening(15, false);
-        told(x, 2, 1, 2, 0, -1);
+        Shelters.told(x, 2, 1, 2, 0, -1);
         x.evening(6, false);
-        told(x, 2, -1, 1, 0, -1);
+        Shelters.told(x, 2, -1, 1, 0, -1);
     }
 
     private static void whoCountsAtTheDoor() {
-        NightShelter x = with(3);
+        NightShelter x = Shelters.with(3);
         x.room(6, 0, false, false, 0);
         Checks.same("all bits", x.evening(-1, false), 3);
         Checks.same("who stood there", x.book(0, 0), 7);
         Checks.same("only those who are none", x.evening(~7, false), 0);
         Checks.same("nobody stood there", x.book(1, 0), 0);
         Checks.same("two evenings", x.count(4), 2);
-        told(x, 1, -1, -1, -1);
+        Shelters.told(x, 1, -1, -1, -1);
     }
 
     private static void atMostTenAtTheDoor() {
-        NightShelter x = with(24);
+        NightShelter x = Shelters.with(24);
         x.room(6, 0, false, false, 0);
         x.room(6, 0, false, false, 0);
         Checks.same("eleven", x.evening(0x7ff, false), -1);
@@ -84,7 +69,7 @@ public final class EveningTest {
     }
 
     private static void atMostFourHundred() {
-        NightShelter x = with(1);
+        NightShelter x = Shelters.with(1);
         x.room(1, 0, false, false, 0);
         for (int i = 0; i < 400; i++) {
             Checks.same("evening " + i, x.evening(1, false), 1);
@@ -100,7 +85,7 @@ public final class EveningTest {
     }
 
     private static void whyInItsOrder() {
-        NightShelter x = with(8);
+        NightShelter x = Shelters.with(8);
         x.room(1, 0, false, false, 0);
         Checks.take(x, "when age<22:bar;when age=27:add 9;");
         x.bar(0, true);
@@ -108,52 +93,52 @@ public final class EveningTest {
         x.pair(3, 1, 1);
         x.pair(4, 5, 1);
         x.evening(0xff, false);
-        told(x, 1, 1, 2, 3, 3, 4, 4, 5, 0);
-        told(x, 2, -1, -1, 1, 2, 3, 4, 5, 0);
-        told(x, 0, -1, -1, -1, -1, -1, -1, -1, 0);
+        Shelters.told(x, 1, 1, 2, 3, 3, 4, 4, 5, 0);
+        Shelters.told(x, 2, -1, -1, 1, 2, 3, 4, 5, 0);
+        Shelters.told(x, 0, -1, -1, -1, -1, -1, -1, -1, 0);
     }
 
     private static void parties() {
-        NightShelter x = with(6);
+        NightShelter x = Shelters.with(6);
         x.room(3, 0, false, false, 0);
         x.room(2, 0, false, false, 0);
         x.pair(0, 5, 1);
         x.pair(3, 5, 1);
         Checks.same("one of the PARTY is away", x.evening(0b001001, false), 0);
-        told(x, 1, 3, -1, -1, 3, -1, -1);
+        Shelters.told(x, 1, 3, -1, -1, 3, -1, -1);
         Checks.same("the whole PARTY", x.evening(0b101001, false), 3);
-        told(x, 0, 0, -1, -1, 0, -1, 0);
+        Shelters.told(x, 0, 0, -1, -1, 0, -1, 0);
         Checks.same("PARTY with others", x.evening(0b111111, false), 5);
-        told(x, 0, 0, 1, 1, 0, -1, 0);
-        told(x, 1, 0, 0, 0, 0, 5, 0);
+        Shelters.told(x, 0, 0, 1, 1, 0, -1, 0);
+        Shelters.told(x, 1, 0, 0, 0, 0, 5, 0);
         Checks.take(x, "when age=25:add 1;when age=21:add 2;when age=22:add 2;when age=24:add 2;");
         Checks.same("PARTY behind others", x.evening(0b111111, false), 3);
-        told(x, 2, 4, 1, 2, 5, 0, 3);
-        told(x, 1, 5, 0, 0, 5, 0, 5);
+        Shelters.told(x, 2, 4, 1, 2, 5, 0, 3);
+        Shelters.told(x, 1, 5, 0, 0, 5, 0, 5);
     }
 
     private static void partiesThatNoRoomTakes() {
-        NightShelter x = with(4);
+        NightShelter x = Shelters.with(4);
         x.evening(1, false);
         Checks.same("no ROOM at all", x.told(0, 1), 4);
         x.room(2, 1, false, false, 0);
         x.pair(0, 1, 1);
         x.pair(1, 2, 1);
         x.evening(15, false);
-        told(x, 1, 4, 4, 4, 0);
+        Shelters.told(x, 1, 4, 4, 4, 0);
         x.evening(7, true);
-        told(x, 1, 0, 0, 0, -1);
+        Shelters.told(x, 1, 0, 0, 0, -1);
         x.pair(0, 2, 0);
         x.evening(7, true);
-        told(x, 1, 4, 4, 4, -1);
+        Shelters.told(x, 1, 4, 4, 4, -1);
         x.pair(0, 2, 2);
         x.ill(1, 2);
         x.evening(7, true);
-        told(x, 1, 4, 4, 4, -1);
+        Shelters.told(x, 1, 4, 4, 4, -1);
         x.ill(0, 2);
         x.ill(2, 2);
         x.evening(7, true);
-        told(x, 1, 0, 0, 0, -1);
+        Shelters.told(x, 1, 0, 0, 0, -1);
     }
 
     private static void whatRoomsAreFor() {
@@ -164,20 +149,20 @@ public final class EveningTest {
         x.person(30, 1, true, false);
         x.room(6, 0, true, false, 1);
         x.evening(15, false);
-        told(x, 1, 4, 4, 4, 0);
+        Shelters.told(x, 1, 4, 4, 4, 0);
         x.room(6, 0, false, false, 2);
         x.evening(15, false);
-        told(x, 0, -1, -1, 1, 0);
+        Shelters.told(x, 0, -1, -1, 1, 0);
         x.room(6, 0, true, true, 0);
         x.evening(15, false);
-        told(x, 0, -1, 2, 1, 0);
+        Shelters.told(x, 0, -1, 2, 1, 0);
         x.room(6, 0, false, false, 1);
         x.evening(15, false);
-        told(x, 0, 3, 2, 1, 0);
+        Shelters.told(x, 0, 3, 2, 1, 0);
     }
 
     private static void illsAreKeptApart() {
-        NightShelter x = with(5);
+        NightShelter x = Shelters.with(5);
         for (int i = 0; i < 3; i++) {
             x.room(6, 0, false, false, 0);
         }
@@ -186,27 +171,27 @@ public final class EveningTest {
         x.ill(3, 3);
         x.ill(4, 1);
         Checks.same("three ILLS", x.evening(31, false), 4);
-        told(x, 0, 0, 1, 2, -1, 1);
-        told(x, 1, 0, 0, 0, 5, 0);
+        Shelters.told(x, 0, 0, 1, 2, -1, 1);
+        Shelters.told(x, 1, 0, 0, 0, 5, 0);
     }
 
     private static void apartAreKeptApart() {
-        NightShelter x = with(4);
+        NightShelter x = Shelters.with(4);
         x.room(6, 0, false, false, 0);
         x.room(6, 0, false, false, 0);
         x.pair(0, 1, 0);
         x.pair(2, 1, 0);
         x.pair(2, 0, 0);
         Checks.same("a triangle in two ROOMS", x.evening(15, false), 3);
-        told(x, 0, 0, 1, -1, 0);
-        told(x, 1, 0, 0, 5, 0);
+        Shelters.told(x, 0, 0, 1, -1, 0);
+        Shelters.told(x, 1, 0, 0, 5, 0);
         x.pair(0, 2, 2);
         Checks.same("a row in two ROOMS", x.evening(15, false), 4);
-        told(x, 0, 0, 1, 0, 0);
+        Shelters.told(x, 0, 0, 1, 0, 0);
     }
 
     private static void matsOnColdNights() {
-        NightShelter x = with(8);
+        NightShelter x = Shelters.with(8);
         x.room(2, 3, false, false, 0);
         x.room(1, 0, false, false, 0);
         Checks.same("no COLD night", x.evening(0xff, false), 3);
@@ -218,34 +203,34 @@ public final class EveningTest {
     }
 
     private static void ownRoomFirst() {
-        NightShelter x = with(3);
+        NightShelter x = Shelters.with(3);
         x.room(1, 0, false, false, 0);
         x.room(2, 0, false, false, 0);
         x.evening(1, false);
         Checks.same("from 0 on", x.told(0, 0), 0);
         x.evening(6, false);
-        told(x, 0, -1, 0, 1);
+        Shelters.told(x, 0, -1, 0, 1);
         x.evening(1, false);
         x.evening(4, false);
         Checks.same("its own ROOM of last time", x.told(2, 0), 1);
         x.evening(3, false);
-        told(x, 0, 0, 1, -1);
+        Shelters.told(x, 0, 0, 1, -1);
         x.evening(2, false);
         Checks.same("the ROOM it slept in last", x.told(1, 0), 1);
         Checks.same("tell its ROOM", x.tell(1, 5), 1);
     }
 
     private static void leastNumbersFirst() {
-        NightShelter x = with(3);
+        NightShelter x = Shelters.with(3);
         x.room(1, 0, false, false, 0);
         x.room(6, 0, false, false, 0);
         Checks.take(x, "when age=22:add 5;");
         x.evening(7, false);
-        told(x, 2, 1, 2, 0);
-        told(x, 0, 0, 1, 1);
+        Shelters.told(x, 2, 1, 2, 0);
+        Shelters.told(x, 0, 0, 1, 1);
         x.pair(2, 0, 1);
         x.evening(7, false);
-        told(x, 0, 1, 1, 1);
+        Shelters.told(x, 0, 1, 1, 1);
     }
 
     /** One who came first goes elsewhere so that a later one can be TAKEN, too. */
@@ -259,43 +244,37 @@ public final class EveningTest {
         x.evening(1, false);
         Checks.same("alone in ROOM 0", x.told(0, 0), 0);
         Checks.same("all three", x.evening(7, false), 3);
-        told(x, 0, 1, 1, 0);
+        Shelters.told(x, 0, 1, 1, 0);
         Checks.same("ROOM 0 for the one who can't climb", x.book(1, 10), 4);
     }
 
     private static void helpersByTurns() {
-        NightShelter x = with(2);
+        NightShelter x = Shelters.with(2);
         x.room(1, 0, false, false, 0);
         x.room(1, 0, false, false, 0);
         x.helper(127, 7);
         x.helper(127, 7);
         x.helper(0b0000010, 7);
         x.evening(1, false);
-        called(x, true, false, false);
+        Shelters.called(x, true, false, false);
         Checks.same("none is wanting", x.book(0, 3), 0);
         x.evening(3, false);
-        called(x, false, true, true);
+        Shelters.called(x, false, true, true);
         x.evening(3, false);
-        called(x, true, true, false);
+        Shelters.called(x, true, true, false);
         x.evening(0, false);
-        called(x, false, false, false);
+        Shelters.called(x, false, false, false);
         Checks.same("nights of 0", x.duty(0, 0), 2);
         Checks.same("nights of 1", x.duty(1, 0), 2);
         Checks.same("nights of 2", x.duty(2, 0), 1);
         x.helper(127, 1);
         Checks.same("a new one was not called", x.called(3), false);
         x.evening(3, false);
-        called(x, true, false, false, true);
-    }
-
-    private static void called(NightShelter x, boolean... due) {
-        for (int helper = 0; helper < due.length; helper++) {
-            Checks.same("called(" + helper + ")", x.called(helper), due[helper]);
-        }
+        Shelters.called(x, true, false, false, true);
     }
 
     private static void helpersOfAWeek() {
-        NightShelter x = with(1);
+        NightShelter x = Shelters.with(1);
         x.room(1, 0, false, false, 0);
         x.helper(127, 2);
         int[] left = {1, 0, 0, 0, 0, 0, 2, 1, 0};
@@ -310,7 +289,7 @@ public final class EveningTest {
     }
 
     private static void oneMoreHelperForNine() {
-        NightShelter x = with(10);
+        NightShelter x = Shelters.with(10);
         x.room(6, 0, false, false, 0);
         x.room(6, 0, false, false, 0);
         for (int i = 0; i < 8; i++) {
@@ -321,7 +300,7 @@ public final class EveningTest {
         Checks.same("nine", x.evening(0x1ff, false), 9);
         Checks.same("one more", x.book(1, 2), 0b11100);
 
-        NightShelter y = with(10);
+        NightShelter y = Shelters.with(10);
         y.room(6, 0, false, false, 0);
         y.room(6, 0, false, false, 0);
         y.helper(127, 7);
@@ -331,7 +310,7 @@ public final class EveningTest {
     }
 
     private static void turnedAndNights() {
-        NightShelter x = with(3);
+        NightShelter x = Shelters.with(3);
         x.room(1, 0, false, false, 0);
         x.bar(2, true);
         x.evening(7, false);
@@ -348,7 +327,7 @@ public final class EveningTest {
     }
 
     private static void bookOfEvenings() {
-        NightShelter x = with(4);
+        NightShelter x = Shelters.with(4);
         x.room(2, 0, false, false, 0);
         x.helper(127, 7);
         x.evening(7, false);
@@ -373,16 +352,16 @@ public final class EveningTest {
     }
 
     private static void toldOfNobody() {
-        NightShelter x = with(1);
+        NightShelter x = Shelters.with(1);
         x.room(1, 0, false, false, 0);
-        told(x, 0, -1);
-        told(x, 1, -1);
-        told(x, 2, -1);
+        Shelters.told(x, 0, -1);
+        Shelters.told(x, 1, -1);
+        Shelters.told(x, 2, -1);
         x.evening(1, false);
         x.person(30, 1, true, true);
-        told(x, 0, 0, -1);
-        told(x, 1, 0, -1);
-        told(x, 2, 0, -1);
+        Shelters.told(x, 0, 0, -1);
+        Shelters.told(x, 1, 0, -1);
+        Shelters.told(x, 2, 0, -1);
         for (int what : new int[] {-1, 3, Integer.MIN_VALUE, Integer.MAX_VALUE}) {
             Checks.same("told(0, " + what + ")", x.told(0, what), -1);
         }

@@ -37,17 +37,7 @@ public final class RefusalTest {
 
     /** Six PEOPLE, two ROOMS, two HELPERS, a TEXT, a FAULT, a tape of 15 bytes, two evenings and image 1. */
     private static void smallHouse(NightShelter x) {
-        x.room(2, 1, false, true, 0);
-        x.room(1, 0, true, false, 2);
-        for (int i = 0; i < 6; i++) {
-            x.person(30 + i, 1 + i % 2, i != 2, i == 3);
-        }
-        x.pair(0, 1, 1);
-        x.pair(2, 3, 0);
-        x.ill(4, 2);
-        x.bar(3, true);
-        x.helper(127, 3);
-        x.helper(0b0000011, 1);
+        Shelters.furnish(x, 6);
         x.evening(63, true);
         x.image(1);
         Checks.take(x, "when age<33:add 3;when cold=1:add -1;when here:add 2;");

@@ -24,6 +24,21 @@ final class Shelters {
         return x;
     }
 
+    /** Two ROOMS, so many PEOPLE (5 at least), an ILL, one who is BARRED, two PAIRS and two HELPERS. */
+    static void furnish(NightShelter x, int people) {
+        x.room(2, 1, false, true, 0);
+        x.room(1, 0, true, false, 2);
+        for (int i = 0; i < people; i++) {
+            x.person(30 + i, 1 + i % 2, i != 2, i == 3);
+        }
+        x.pair(0, 1, 1);
+        x.pair(2, 3, 0);
+        x.ill(4, 2);
+        x.bar(3, true);
+        x.helper(127, 3);
+        x.helper(0b0000011, 1);
+    }
+
     static int all(int people) {
         return (1 << people) - 1;
     }
