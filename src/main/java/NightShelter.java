@@ -51,7 +51,7 @@ public final class NightShelter {
         tape = new Tape();
         now = new State(new Rules());
         images = new State[IMAGES];
-        porter = new Porter();
+        porter = new Porter(now);
         latestFault = NO_FAULT;
         latestPlace = NONE;
     }
@@ -150,12 +150,13 @@ public final class NightShelter {
         if (Integer.bitCount(standing) > MAX_AT_DOOR || now.evenings() >= MAX_EVENINGS) {
             return NONE;
         }
-        porter.begin(now, standing, cold);
-        porter.lineUp();
-        porter.takeParties();
-        porter.settleParties();
-        porter.callHelpers();
-        return porter.closeDoor();
+        Night night = new Night(now, standing, cold);
+        porter.lineUp(night);
+        porter.takeParties(night);
+        porter.settleParties(night);
+        porter.callHelpers(night);
+        porter.closeDoor(night);
+        return Integer.bitCount(night.taken);
     }
 
     public int points(int person, boolean cold) {
@@ -913,40 +914,38 @@ public final class NightShelter {
 
     /** Lets people in on one EVENING, step by step. Its rows are used again every evening. */
     private static final class Porter {
-        private final Placer placer = new Placer();
+        private final State state;
+        private final Placer placer;
         private final int[] points = new int[MAX_AT_DOOR];
-        private State state;
-        private Night night;
 
-        void begin(State state, int standing, boolean cold) {
+        Porter(State state) {
             this.state = state;
-            night = new Night(state, standing, cold);
-            placer.begin(state, cold);
+            placer = new Placer(state);
         }
 
-        void lineUp() {
+        void lineUp(Night night) {
             for (int person = 0; person < state.people.size; person++) {
                 if (isIn(night.door, person)) {
-                    lookAt(person);
+                    lookAt(night, person);
                 }
             }
         }
 
-        private void lookAt(int person) {
+        private void lookAt(Night night, int person) {
             int sum = state.pointsOf(person, night.cold);
             if (isIn(state.people.barred, person)) {
                 night.why[person] = WHY_BARRED;
             } else if (sum == LINE_BARS) {
                 night.why[person] = WHY_LINE;
             } else if (night.ordered < MAX_AT_DOOR) {
-                putInOrder(person, sum);
+                putInOrder(night, person, sum);
             }
         }
 
         /* People come by numbers, so who is alike in all else goes behind those who are there. */
-        private void putInOrder(int person, int sum) {
+        private void putInOrder(Night night, int person, int sum) {
             int place = night.ordered;
-            while (place > 0 && isAhead(person, sum, place - 1)) {
+            while (place > 0 && isAhead(night, person, sum, place - 1)) {
                 night.order[place] = night.order[place - 1];
                 points[place] = points[place - 1];
                 place--;
@@ -957,20 +956,21 @@ public final class NightShelter {
             night.inOrder |= bit(person);
         }
 
-        private boolean isAhead(int person, int sum, int place) {
+        private boolean isAhead(Night night, int person, int sum, int place) {
             if (sum != points[place]) {
                 return sum > points[place];
             }
             return state.people.turned[person] > state.people.turned[night.order[place]];
         }
 
-        void takeParties() {
+        void takeParties(Night night) {
+            placer.begin(night.cold);
             int seen = 0;
             for (int place = 0; place < night.ordered; place++) {
                 int person = night.order[place];
                 if (!isIn(seen, person)) {
                     int party = state.people.partyOf(person);
-                    int reason = reasonAgainst(party);
+                    int reason = reasonAgainst(night, party);
                     if (reason == WHY_TAKEN && !placer.takes(party)) {
                         reason = WHY_NO_PLACING;
                     }
@@ -983,14 +983,14 @@ public final class NightShelter {
             }
         }
 
-        private int reasonAgainst(int party) {
+        private int reasonAgainst(Night night, int party) {
             if ((party & ~night.inOrder) != 0) {
                 return WHY_PARTY_NOT_IN_ORDER;
             }
             return placer.roomsFor(party) == 0 ? WHY_NO_ROOM_AT_ALL : WHY_TAKEN;
         }
 
-        void settleParties() {
+        void settleParties(Night night) {
             for (int person = 0; person < state.people.size; person++) {
                 boolean done = !isIn(night.taken, person) || placer.hasSettled(person);
                 for (int choice = 0; choice <= night.inRoom.length && !done; choice++) {
@@ -1003,7 +1003,7 @@ public final class NightShelter {
             }
         }
 
-        void callHelpers() {
+        void callHelpers(Night night) {
             int wanted = Integer.bitCount(night.taken) > MANY_TAKEN ? 1 : 0;
             for (int people : night.inRoom) {
                 wanted += people != 0 ? 1 : 0;
@@ -1020,7 +1020,7 @@ public final class NightShelter {
             }
         }
 
-        int closeDoor() {
+        void closeDoor(Night night) {
             People people = state.people;
             for (int person = 0; person < people.size; person++) {
                 if (isIn(night.taken, person)) {
@@ -1035,7 +1035,6 @@ public final class NightShelter {
             if (state.dayOfWeek() == 0) {
                 state.helpers.beginWeek();
             }
-            return Integer.bitCount(night.taken);
         }
     }
 
@@ -1044,7 +1043,7 @@ public final class NightShelter {
      * that a new party mostly needs no search.
      */
     private static final class Placer {
-        private State state;
+        private final State state;
         private boolean cold;
         private int parties;
         private final int[] members = new int[MAX_AT_DOOR];
@@ -1058,8 +1057,11 @@ public final class NightShelter {
         private final int[] illInside = new int[MAX_ROOMS];
         private final int[] left = new int[MAX_ROOMS];
 
-        void begin(State state, boolean cold) {
+        Placer(State state) {
             this.state = state;
+        }
+
+        void begin(boolean cold) {
             this.cold = cold;
             parties = 0;
             for (int room = 0; room < state.rooms.size; room++) {

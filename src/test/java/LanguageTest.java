@@ -4,6 +4,8 @@ import java.nio.file.Path;
 import java.util.List;
 import java.util.Set;
 import java.util.TreeSet;
+import java.util.regex.Matcher;
+import java.util.regex.Pattern;
 import java.lang.reflect.Constructor;
 import java.lang.reflect.Field;
 import java.lang.reflect.Method;
@@ -12,6 +14,11 @@ import java.lang.reflect.Modifier;
 /** The rules of LANGUAGE.md that a look at the source and the compiled class can check, and the face of the class. */
 public final class LanguageTest {
     private static final Path SOURCE = Path.of("src/main/java/NightShelter.java");
+    private static final Set<String> LIBRARY = Set.of("System.arraycopy", "Arrays.fill", "Arrays.copyOf",
+            "Arrays.copyOfRange", "Math.min", "Math.max", "Integer.bitCount");
+
+    /* The rules are there from the constructor on; for the latest evening null means that there was none. */
+    private static final Set<String> CHANGING = Set.of("State.rules", "State.latest");
 
     public static void main(String[] args) throws IOException {
         String code = withoutCommentsAndTexts(Files.readString(SOURCE));
@@ -28,6 +35,13 @@ public final class LanguageTest {
         }
         face();
         noNameTwice();
+        libraryCalls(code);
+        staticFields(NightShelter.class);
+        for (Class<?> own : NightShelter.class.getDeclaredClasses()) {
+            staticFields(own);
+            fields(own);
+        }
+        shortMethods(Files.readString(SOURCE));
         Checks.close();
     }
 
@@ -83,6 +97,54 @@ public final class LanguageTest {
             for (Method method : own.getDeclaredMethods()) {
                 Checks.same(own + "." + method.getName() + " bears a public name", open.contains(method.getName()), false);
                 Checks.same(own + "." + method.getName() + " parameters", method.getParameterCount() <= 7, true);
+            }
+        }
+    }
+
+    /** Rule 4: only these functions of the library. */
+    private static void libraryCalls(String code) {
+        Matcher call = Pattern.compile("\\b(System|Arrays|Math|Integer|Long|String|List|ArrayList)\\.(\\w+)").matcher(code);
+        while (call.find()) {
+            Checks.same(call.group() + " is in the list", LIBRARY.contains(call.group()), true);
+        }
+    }
+
+    /** Rule 5: static fields are constants. */
+    private static void staticFields(Class<?> own) {
+        for (Field field : own.getDeclaredFields()) {
+            if (Modifier.isStatic(field.getModifiers())) {
+                Checks.same(own + "." + field.getName() + " is final", Modifier.isFinal(field.getModifiers()), true);
+                Checks.same(own + "." + field.getName() + " is an int", field.getType() == int.class, true);
+            }
+        }
+    }
+
+    /** Rules 7 and 11: some twenty fields, and no reference that could be null but those that are tested. */
+    private static void fields(Class<?> own) {
+        int fields = 0;
+        for (Field field : own.getDeclaredFields()) {
+            if (!Modifier.isStatic(field.getModifiers())) {
+                fields++;
+                String name = own.getSimpleName() + "." + field.getName();
+                boolean safe = field.getType().isPrimitive() || Modifier.isFinal(field.getModifiers());
+                Checks.same(name + " is final", safe || CHANGING.contains(name), true);
+            }
+        }
+        Checks.same(own + " has few fields", fields <= 20, true);
+    }
+
+    /** Rule 11: methods of some sixty lines at most. */
+    private static void shortMethods(String source) {
+        int first = 0;
+        String head = "";
+        String[] lines = source.split("\n");
+        for (int i = 0; i < lines.length; i++) {
+            if (lines[i].matches(" {4}( {4})?[\\w\\[\\]. ]+\\(.*\\) \\{")) {
+                first = i;
+                head = lines[i].trim();
+            } else if (lines[i].matches(" {4}( {4})?\\}")) {
+                Checks.same(head + " has few lines", i - first < 60 || head.isEmpty(), true);
+                head = "";
             }
         }
     }
